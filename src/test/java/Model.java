@@ -545,6 +545,8 @@ final class Model {
     // ---- texts; a fault is thrown
 
     static final class Fault extends Exception {
+        private static final long serialVersionUID = 1;
+
         final int at;
 
         Fault(int at) {
