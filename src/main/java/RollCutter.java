@@ -1588,7 +1588,7 @@ public final class RollCutter {
             }
             int top = -1;
             for (int k = 0; k < steps; k++) {
-                if (kind[k] == COMPARE) {
+                if (kind[k] == COMPARE && top < MOST_BYTES) {
                     top++;
                     stack[top] = isSo(k);
                 } else if (kind[k] == NOT && top >= 0) {

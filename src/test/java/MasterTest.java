@@ -14,7 +14,9 @@ public final class MasterTest {
         rowOfSeveral();
         manyRounds();
         leeway();
+        leewayOfTheLeast();
         leewayOfNothing();
+        kerfJustGoes();
         C.end();
     }
 
@@ -297,6 +299,22 @@ public final class MasterTest {
         C.due("leeway(-1)", x.leeway(-1), -1);
     }
 
+    /** Rows 1a1b1c 2, 2b 1, 2c 3/2, the shares of which for a are 1, -1/2, -1/2: 2 and 3 may be more. */
+    private static void leewayOfTheLeast() {
+        C.part("promise 17, the least of several rows");
+        RollCutter x = Calls.withBook("14x2;24x4;22x5");
+        C.due("rounds()", x.rounds(), 1);
+        share(x, 1, 0, -1, 2);
+        share(x, 2, 0, -1, 2);
+        amount(x, 1, 1, 1);
+        amount(x, 2, 3, 2);
+        C.due("leeway(0)", x.leeway(0), 2);
+        // for c row 0 is at 0 and falls, row 1 is at 1 and falls, too
+        x = Calls.withBook("10x1;36x2;14x1");
+        C.due("leeway(2)", x.leeway(2), 0);
+        C.due("leeway(0)", x.leeway(0), 2);
+    }
+
     /** Row 1 is taken by 1a1b, all three of it; row 0, 1a, has an amount of 0 then, that b takes from. */
     private static void leewayOfNothing() {
         C.part("promise 17, nothing more");
@@ -306,5 +324,29 @@ public final class MasterTest {
         amount(x, 1, 3, 1);
         C.due("leeway(0)", x.leeway(0), -5);
         C.due("leeway(1)", x.leeway(1), 0);
+    }
+
+    /** 59 with a kerf of 1: 3a are 57 and 2, 1a1b are 58 and 1; both just go. */
+    private static void kerfJustGoes() {
+        C.part("promises 8 to 16, kerfs that just go");
+        RollCutter x = new RollCutter();
+        x.machine(1, 1);
+        x.machine(0, 59);
+        Calls.book(x, "19x5;39x2");
+        C.due("rounds()", x.rounds(), 1);
+        C.due("came(0, 0)", x.came(0, 0), 1);
+        C.due("row(0, 0)", x.row(0, 0), 3);
+        C.due("row(0, 1)", x.row(0, 1), 59);
+        C.due("row(1, 0)", x.row(1, 0), 2);
+        C.due("row(1, 1)", x.row(1, 1), 59);
+        amount(x, 0, 1, 1);
+        amount(x, 1, 2, 1);
+        x.machine(0, 58);
+        C.due("rounds() of 58", x.rounds(), 0);
+        C.due("row(0, 0) of 58", x.row(0, 0), 2);
+        x.machine(0, 60);
+        x.machine(1, 2);
+        C.due("rounds(), a kerf of 2", x.rounds(), 1);
+        C.due("row(0, 0), 57 and 4", x.row(0, 0), 2);
     }
 }

@@ -193,6 +193,9 @@ public final class OrdersTest {
         C.due("machine(0, 44), below a width", x.machine(0, 44), -2);
         C.due("machine(0, 45)", x.machine(0, 45), 60);
         C.due("told(3)", x.told(3), 45);
+        x = new RollCutter();
+        x.order(60, 0);
+        C.due("machine(0, 59), below a width of 60", x.machine(0, 59), -2);
     }
 
     private static void patterns() {
@@ -264,6 +267,8 @@ public final class OrdersTest {
         }
         C.due("told(-1)", x.told(-1), -1);
         C.due("told(10)", x.told(10), -1);
+        x.due(1, 1);
+        C.due("told(1) when one piece is due", x.told(1), 2);
         x.due(0, 0);
         C.due("told(9) when one is not wanted", x.told(9), 1);
         C.due("told(8) stays", x.told(8), 11);

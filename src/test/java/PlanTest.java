@@ -10,6 +10,7 @@ public final class PlanTest {
         upIsAsMany();
         sameCutAgain();
         fillTakesTheEarliest();
+        fillWithKerf();
         wrongNumbers();
         fullUpByAnyOrder();
         mostRolls();
@@ -206,6 +207,17 @@ public final class PlanTest {
         x.machine(0, 50);
         Calls.book(x, "22x1;20x1;28x1;30x1");
         plan(x, "1x1a1c;1x1b1d");
+    }
+
+    /** Rows 5a 9/5 and 2b 3/2; 4a and 1b are due then: 2a1b are 46 and 4, 4a are 40 and 6; 3a1b don't go. */
+    private static void fillWithKerf() {
+        C.part("promise 19, filled with a kerf");
+        RollCutter x = new RollCutter();
+        x.machine(1, 2);
+        x.machine(0, 58);
+        Calls.book(x, "10x9;26x3");
+        plan(x, "1x5a;1x2b;1x2a1b;1x2a");
+        wastes(x, 0, 4, 8, 36);
     }
 
     private static void wrongNumbers() {

@@ -147,6 +147,26 @@ public final class StoreTest {
         C.due("serve()", x.serve(), 2);
         C.due("store(25)", x.store(25), 1);
         C.due("store(-1)", x.store(-1), 1);
+        x = Calls.withBook("60x1;5x12;59x1");
+        x.put(60);
+        x.put(60);
+        // 60 and 59 are served
+        C.due("serve()", x.serve(), 2);
+        C.due("told(2)", x.told(2), 12);
+        x.put(60);
+        x.machine(3, 5);
+        C.due("serve() of all that are left", x.serve(), 12);
+        C.due("store(-1)", x.store(-1), 0);
+        forty();
+    }
+
+    private static void forty() {
+        RollCutter x = Calls.withBook("30x40");
+        for (int k = 0; k < 41; k++) {
+            x.put(30);
+        }
+        C.due("serve() of forty", x.serve(), 40);
+        C.due("store(30)", x.store(30), 1);
     }
 
     /** What is left over of one piece serves the next one of the same order, and of narrower ones. */

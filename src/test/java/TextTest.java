@@ -263,6 +263,14 @@ public final class TextTest {
         conditionFault("uses=0", 0);
         conditionFault("wast", 0);
         conditionFault("aa=0", 0);
+        conditionFault("usedz=0", 0);
+        conditionFault("az=0", 0);
+        conditionFault("zused=0", 0);
+        conditionFault("bsed=0", 0);
+        conditionFault("taste=0", 0);
+        conditionFault("wimes=0", 0);
+        conditionFault("wieces=0", 0);
+        conditionFault("bull=0", 0);
         conditionFault("=0", 0);
         conditionFault("5=a", 0);
         conditionFault(" a=0", 0);
@@ -318,6 +326,12 @@ public final class TextTest {
         Calls.feed(x, "a=2|" + "a=9|".repeat(20) + "b=3|a=");
         C.due("told(7), the tape is full", x.told(7), 90);
         C.due("pick, cut off", x.pick(), -100 - 90);
+        C.due("pick, a word at the end", Calls.pick(x, "a=2|".repeat(21) + "a=02|b"), -100 - 90);
+        C.due("pick, a longer one", Calls.pick(x, "a=2|".repeat(21) + "a|used"), -100 - 85);
+        C.due("pick, a word at the end", Calls.pick(x, "a=2|".repeat(20) + "a=02|&used"), -100 - 85);
+        C.due("pick, a word at the end", Calls.pick(x, "a=2|".repeat(20) + "a=02&(used"), -100 - 90);
+        C.due("pick, no word at the end", Calls.pick(x, "a=2|".repeat(20) + "a=02&(usee"), -100 - 86);
+        C.due("pick, nothing but a letter", Calls.pick(x, "a".repeat(90)), -100);
     }
 
     private static void judge() {
@@ -339,6 +353,10 @@ public final class TextTest {
         x.due(0, 0);
         x.due(2, 0);
         C.due("nothing due", Calls.judge(x, "1x1c"), 202);
+        x = Calls.withBook("40x1;5x4;6x0");
+        C.due("01 behind a letter", Calls.judge(x, "1x1a04b"), 1001);
+        C.due("9 behind a letter", Calls.judge(x, "1x1a9b"), 0);
+        C.due("9 behind a letter, no pattern", Calls.judge(x, "4x1b;1x1a9b"), 1);
     }
 
     private static void judgeNoPattern() {
@@ -347,6 +365,7 @@ public final class TextTest {
         C.due("3a", Calls.judge(x, "1x3a"), 0);
         C.due("behind a good one", Calls.judge(x, "9x1a;1x3a"), 1);
         C.due("the first of two", Calls.judge(x, "9x1a;1x1c;1x6c;1x3a"), 2);
+        C.due("the first of all", Calls.judge(x, "1x6c;1x1c;1x3a"), 0);
         C.due("12c", Calls.judge(x, "1x12c"), 0);
         C.due("1a1b1c is 62", Calls.judge(x, "1x1a1b1c"), 0);
         C.due("5c is 60", Calls.judge(x, "1x5c"), 100);
