@@ -347,5 +347,21 @@ public final class OrdersTest {
         x.drop();
         C.due("undo() to the later one", x.undo(), 2);
         C.due("of(1, 0)", x.of(1, 0), 21);
+        x.drop();
+        x.drop();
+        x.order(44, 8);
+        x.order(45, 9);
+        x.order(46, 1);
+        C.due("undo() from other orders", x.undo(), 2);
+        C.due("of(0, 0)", x.of(0, 0), 30);
+        C.due("of(1, 0)", x.of(1, 0), 21);
+        C.due("of(1, 1)", x.of(1, 1), 7);
+        C.due("of(2, 0)", x.of(2, 0), -1);
+        // what comes behind an image is not the image's
+        x.put(33);
+        x.due(0, 1);
+        C.due("undo() once more", x.undo(), 2);
+        C.due("of(0, 1)", x.of(0, 1), 5);
+        C.due("store(33)", x.store(33), 0);
     }
 }
