@@ -17,6 +17,20 @@ final class Calls {
         return x;
     }
 
+    /**
+     * An object with 999 offcuts of 10, from 40 rolls with a waste of 10 at a time and 39 of the
+     * first: so that some 450 of the 512 calls that it is good for are left.
+     */
+    static RollCutter withMostOffcuts() {
+        RollCutter x = withBook("50x39");
+        x.carry();
+        for (int k = 1; k <= 24; k++) {
+            x.due(0, 40);
+            x.carry();
+        }
+        return x;
+    }
+
     static int book(RollCutter x, String text) {
         feed(x, text);
         return x.book();

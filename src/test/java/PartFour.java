@@ -58,6 +58,8 @@ final class PartFour {
         C.due("90 bytes that end too early", Calls.pick(five(), most + "used=60|b<"), -190);
         C.due("89 bytes that end too early", Calls.pick(five(), most + "times=02&"), -189);
         C.due("a word of the last two of 90 bytes", Calls.pick(five(), most + "used=60|bb"), -188);
+        C.due("a word at the end of 90 bytes", Calls.pick(five(), most + "(b>0&!used"), -190);
+        C.due("no word at the end of 90 bytes", Calls.pick(five(), most + "(b>0&!usee"), -186);
     }
 
     private static void numbers() {
@@ -72,7 +74,14 @@ final class PartFour {
         C.due("three figures of a due", Calls.book(x, "20x010"), -105);
         C.due("figures of times", Calls.judge(x, "010x1a"), -102);
         C.due("figures of pieces", Calls.judge(x, "1x012a"), -104);
-        C.due("01 and 001", Calls.judge(x, "01x01a"), 200);
+        C.due("01 and 01", Calls.judge(x, "01x01a"), 200);
+        C.due("04 behind a letter", Calls.judge(x, "1x1a04b"), 200);
+        C.due("9 behind a letter: 5 and 9 of 6", Calls.judge(x, "1x1a9b"), 200);
+        C.due("the byte ahead of 0", Calls.judge(x, "1x1a/b"), -104);
+        C.due("the byte behind 9", Calls.judge(x, "1x1a:b"), -104);
+        C.due("the byte ahead of 0", Calls.book(x, "9/x1"), -101);
+        C.due("the byte behind 9", Calls.book(x, "9:x1"), -101);
+        C.due("the byte behind 9 first", Calls.book(x, ":x1"), -100);
         so("used=060", -107, -107);
         so("a=02", 1, 0);
         so("a=002", -104, -104);
@@ -268,6 +277,12 @@ final class PartFour {
         fault("fulla=1", 0);
         fault("afull=1", 0);
         fault("=1", 0);
+        fault("vsed=60", 0);
+        fault("xaste=0", 0);
+        fault("uimes=1", 0);
+        fault("qieces=1", 0);
+        fault("gull=1", 0);
+        fault("usee=60", 0);
         // as many of a .. z as stand there, and no other byte
         fault("a{=0", 1);
         fault("a`=0", 1);
@@ -344,6 +359,7 @@ final class PartFour {
         C.due("the first", Calls.judge(x, "1x3a"), 0);
         C.due("the second", Calls.judge(x, "9x1a;1x3a"), 1);
         C.due("the first of two", Calls.judge(x, "1x1c;1x6c;1x3a"), 1);
+        C.due("the first of several", Calls.judge(x, "1x3a;1x1c;1x6c"), 0);
         C.due("ahead of what is due", Calls.judge(x, "99x1a;99x1b;1x6c"), 2);
         C.due("60 of 60", Calls.judge(x, "1x2a;1x3b;1x5c"), 100);
         C.due("62 of 60", Calls.judge(x, "1x1a1b1c"), 0);

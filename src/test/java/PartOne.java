@@ -198,7 +198,11 @@ final class PartOne {
         x.drop();
         x.drop();
         x.drop();
-        C.due("machine(0, 20), with no orders", x.machine(0, 20), 41);
+        C.due("machine(0, 60), with no orders", x.machine(0, 60), 41);
+        x.order(60, 0);
+        C.due("machine(0, 59), as wide as can be", x.machine(0, 59), -2);
+        x.drop();
+        C.due("machine(0, 20), when that went", x.machine(0, 20), 60);
         C.due("book 20x1;21x1", Calls.book(x, "20x1;21x1"), -105);
         C.due("book 20x1", Calls.book(x, "20x1"), 1);
     }
@@ -306,7 +310,7 @@ final class PartOne {
     }
 
     private static void fullUpByKnivesAndKerf() {
-        Doc.C.part("DOC 1, FULL UP by knives and kerf");
+        C.part("DOC 1, FULL UP by knives and kerf");
         RollCutter x = Calls.withBook("10x2");
         C.due("two of 10", x.cut(0, 3), 0);
         x.machine(2, 3);

@@ -122,6 +122,9 @@ final class PartThree {
         plan(made(59, 0, 2, "20x0;21x0;22x1;25x1;34x1;37x1"), "1x1c1f;1x1d1e");
         // with the kerf 2a1b are 50 and 4a are 46
         plan(made(58, 2, 12, "10x9;26x3"), "1x5a;1x2b;1x2a1b;1x2a");
+        // 4a1b are 49 and 8, 2a2b 50 and 6; 4b are 48 and 3, 1a2b 47 and 2
+        plan(made(60, 2, 12, "8x4;17x2"), "1x4a1b;1x1b");
+        plan(made(60, 1, 12, "23x1;12x4"), "1x4b;1x1a");
         // five knives: 4a1c are 58, 1b3c 50; the latest would be two rolls of 1b and 3c
         plan(made(60, 0, 5, "13x10;32x4;6x4"), "3x2a1b;1x4a1c;1x1b3c");
         // an order that isn't wanted is not filled in
@@ -165,6 +168,10 @@ final class PartThree {
         x = made(60, 0, 8, "28x2;5x29;9x30");
         rolls(x, 9, 8, 8);
         plan(x, "2x1a6b;5x3b5c;1x2b5c");
+        // 3a1c1d, 3b2c, 4c1d, 2d 15 times: the first roll is trimmed, too
+        x = made(60, 0, 5, "8x2;16x3;6x6;29x30");
+        rolls(x, 18, 17, 17);
+        plan(x, "1x2a1c1d;1x3b2c;1x3c1d;14x2d");
         // rows 41/11, 0, 10/11, 3/11: 1a3c1d four times, 3b2c, and 1a1b1d, of which nothing stays
         x = made(60, 0, 5, "24x4;16x3;5x13;20x4");
         rolls(x, 6, 5, 5);

@@ -368,6 +368,8 @@ final class PartTwo {
         C.due("the rows as they are: another row is at 151/21 and falls by 1/7", x.leeway(2), 50);
         // rows 1 and 2 are at 1 and 3/2 and fall by 1/2
         C.due("the least of several", Calls.withBook("14x2;24x4;22x5").leeway(0), 2);
+        // row 0 is at 0 and falls, row 1 is at 1 and falls, too
+        C.due("nothing more, whatever the rows behind it let", Calls.withBook("10x1;36x2;14x1").leeway(2), 0);
         // row 0, 1a, is at 0 and falls by 1 for b
         C.due("nothing more", Calls.withBook("40x3;20x3").leeway(1), 0);
     }

@@ -161,6 +161,10 @@ final class PromisesOne {
         C.due("of none", x.patterns(0), 0);
         C.due("full up of none", x.patterns(1), 0);
         Ask.far("kind", -1, x::patterns, -1, 2, 3);
+        x.machine(0, 20);
+        C.due("of none in a small roll", x.patterns(0), 0);
+        C.due("full up of none in a small roll", x.patterns(1), 0);
+        x.machine(0, 60);
         Calls.book(x, "22x20;17x31;9x40;13x0");
         C.due("of four, one not wanted", x.patterns(0), 58);
         C.due("full up of four", x.patterns(1), 21);
@@ -173,6 +177,25 @@ final class PromisesOne {
         C.due("of one, twelve", y.patterns(0) * 10 + y.patterns(1), 121);
         y.machine(2, 1);
         C.due("with one knife", y.patterns(0) * 10 + y.patterns(1), 11);
+        x.machine(1, 1);
+        C.due("with a kerf", x.patterns(0) * 100 + x.patterns(1), 5220);
+        x.machine(1, 2);
+        C.due("with a kerf of 2", x.patterns(0) * 100 + x.patterns(1), 4418);
+        x.machine(2, 4);
+        C.due("with a kerf of 2 and four knives", x.patterns(0) * 100 + x.patterns(1), 4218);
+        // 1a2b are 58 and 2, 2a1b 59 and 2
+        y = Calls.withBook("20x0;19x0");
+        y.machine(1, 1);
+        C.due("with a kerf that just goes", y.patterns(0) * 10 + y.patterns(1), 73);
+        y.machine(0, 59);
+        C.due("and goes no more", y.patterns(0) * 10 + y.patterns(1), 63);
+        // ten pieces with nine kerfs are 59
+        y = Calls.withBook("5x0");
+        y.machine(1, 1);
+        y.machine(0, 59);
+        C.due("with kerfs that just go", y.patterns(0), 10);
+        y.machine(0, 58);
+        C.due("and go no more", y.patterns(0), 9);
     }
 
     private static void rows() {
@@ -327,9 +350,13 @@ final class PromisesOne {
             x.machine(2, 6);
             C.due("rolls(0) again", x.rolls(0), 4);
             C.due("rolls(1) again", x.rolls(1), 3);
-            x.due(0, k);
-            x.rolls(2);
+            x.due(0, 40);
+            x.due(1, 40 * k);
+            x.due(2, 40);
+            C.due("rolls(1) of many more", x.rolls(1) > 9 ? 1 : 0, 1);
             x.due(0, 4);
+            x.due(1, 2);
+            x.due(2, 9);
         }
         x = Calls.withBook("22x20;17x31;9x40;13x0");
         C.due("rolls(0)", x.rolls(0), 24);

@@ -29,6 +29,7 @@ final class PromisesTwo {
         toldUnlike();
         image();
         undo();
+        behindMore();
     }
 
     private static void waste() {
@@ -126,26 +127,15 @@ final class PromisesTwo {
         C.due("store(40)", x.store(40), 2);
     }
 
-    /** An object with 999 offcuts of 10: 40 rolls with a waste of 10 at a time, 39 at last. */
-    private static RollCutter withMost() {
-        RollCutter x = Calls.withBook("50x39");
-        x.carry();
-        for (int k = 1; k <= 24; k++) {
-            x.due(0, 40);
-            x.carry();
-        }
-        return x;
-    }
-
     private static void moreThanFull() {
         Doc.promise(25, "(OFFCUTS of a size may come to be more than 999 by this, by serve()).");
-        RollCutter x = withMost();
+        RollCutter x = Calls.withMostOffcuts();
         C.due("store(10)", x.store(10), 999);
         x.due(0, 3);
         C.due("carry()", x.carry(), 3);
         C.due("store(10), more by carry()", x.store(10), 1002);
         C.due("store(-1)", x.store(-1), 1002);
-        x = withMost();
+        x = Calls.withMostOffcuts();
         x.put(60);
         x.put(60);
         x.due(0, 2);
@@ -164,10 +154,14 @@ final class PromisesTwo {
         C.due("of none large enough", x.serve(), 0);
         x.put(20);
         x.put(60);
+        C.due("least() ahead of it", x.least(), 1);
+        C.due("rolls(2) ahead of it", x.rolls(2), 1);
         // 20, then 60 and the 40 that are left over, which leaves 20
         C.due("all three", x.serve(), 3);
         C.due("store(20)", x.store(20), 1);
         C.due("store(19)", x.store(19), 1);
+        C.due("least() behind it", x.least(), 0);
+        C.due("rolls(2) behind it", x.rolls(2), 0);
         C.due("nothing due", x.serve(), 0);
         x.due(1, 1);
         C.due("of none large enough again", x.serve(), 0);
@@ -209,7 +203,7 @@ final class PromisesTwo {
 
     private static void putFull() {
         Doc.promise(28, "BAD; FULL: 999 of that size.");
-        RollCutter x = withMost();
+        RollCutter x = Calls.withMostOffcuts();
         Ask.far("size", -2, x::put, 0, -1, 61, 62);
         C.due("store(10)", x.store(10), 999);
         C.due("a thousandth", x.put(10), -4);
@@ -296,6 +290,11 @@ final class PromisesTwo {
         Calls.book(y, "22x4;15x2;5x9");
         // 2x2a3c;1x2b3c by UP
         C.due("of a plan that was rounded up", Calls.pick(y, "c=3"), 2);
+        RollCutter z = Calls.withBook("30x3;20x6;12x9");
+        for (int k = 0; k < 4; k++) {
+            C.due("a long one", Calls.pick(z, "a=9|".repeat(22) + "a="), -190);
+            C.due("a long one again", Calls.pick(z, "a<9&".repeat(5) + "a=2|c=5"), 2);
+        }
     }
 
     private static void first() {
@@ -445,5 +444,66 @@ final class PromisesTwo {
         C.due("rolls(2) of 31", x.rolls(2), 5);
         C.due("undo() behind machine()", x.undo(), 1);
         C.due("rolls(2) of 60", x.rolls(2), 3);
+    }
+
+    /** An object that held more orders, rows, cuts, turns answers as one that never did. */
+    private static void behindMore() {
+        C.part("DOC Promise 39, behind more than there is now");
+        String[] few = {"", "20x0", "20x7", "40x3;20x5", "15x2;31x1;41x1", "30x3;20x6;12x9", "60x1;59x1"};
+        String[] many = {"5x1;6x1;7x1;8x1;9x1;10x1", "22x20;17x31;9x40;13x7", "60x40;59x40;58x40;57x40;56x40;55x40",
+            "11x9;5x30;12x24;15x12;13x33;6x35", "18x2;36x4;23x2;41x1;12x1;14x2"};
+        for (String book : few) {
+            String alone = Whole.of(Calls.withBook(book));
+            for (String more : many) {
+                RollCutter x = Calls.withBook(book);
+                x.image();
+                while (x.told(0) > 0) {
+                    x.drop();
+                }
+                Calls.book(x, more);
+                asked(x);
+                C.due("undo() behind " + more, x.undo() >= 0 ? 1 : 0, 1);
+                Whole.same(book + " behind " + more, Whole.of(x), alone);
+            }
+        }
+        dropped();
+    }
+
+    private static void asked(RollCutter x) {
+        x.rows();
+        x.told(9);
+        x.peak();
+        x.waste(-1);
+        x.patterns(0);
+        x.patterns(1);
+    }
+
+    /** Wide orders that are wanted, and gone: nothing of them counts. */
+    private static void dropped() {
+        C.part("DOC Promise 5, what is gone");
+        RollCutter x = Calls.withBook("15x2;31x1;41x1;60x40");
+        asked(x);
+        x.drop();
+        C.due("told(0)", x.told(0), 3);
+        C.due("told(1)", x.told(1), 3);
+        C.due("told(2)", x.told(2), 4);
+        C.due("rows()", x.rows(), 3);
+        C.due("rolls(2)", x.rolls(2), 2);
+        C.due("sequence(2)", x.sequence(2), 2);
+        C.due("sequence(3)", x.sequence(3), -1);
+        C.due("peak()", x.peak(), 2);
+        x.put(60);
+        x.put(60);
+        C.due("serve()", x.serve(), 4);
+        C.due("machine(0, 41)", x.machine(0, 41), 60);
+        // a narrow one that is gone would go into what is full up
+        x = Calls.withBook("31x1;28x0;5x1");
+        C.due("not full up", x.cut(0, 3), 0);
+        x.drop();
+        x.drop();
+        C.due("full up when they are gone", x.cut(0, 3), 1);
+        C.due("patterns(1)", x.patterns(1), 1);
+        C.due("a letter that is gone", Calls.judge(x, "1x1b"), -103);
+        C.due("a plan without it", Calls.judge(x, "1x1a"), 1001);
     }
 }

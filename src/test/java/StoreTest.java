@@ -41,11 +41,12 @@ public final class StoreTest {
     private static void putFull() {
         C.part("promise 28, full");
         RollCutter x = new RollCutter();
-        for (int k = 1; k <= 999; k++) {
+        for (int k = 1; k <= 300; k++) {
             C.due("put(12)", x.put(12), k);
         }
-        C.due("put(12) once more", x.put(12), -4);
-        C.due("store(12)", x.store(12), 999);
+        x = Calls.withMostOffcuts();
+        C.due("put(10)", x.put(10), -4);
+        C.due("store(10)", x.store(10), 999);
         C.due("put(13)", x.put(13), 1);
         C.due("put(61) is bad first", x.put(61), -2);
     }
@@ -213,11 +214,8 @@ public final class StoreTest {
 
     private static void moreThanFull() {
         C.part("promises 25 and 28, more than 999");
-        RollCutter x = new RollCutter();
-        for (int k = 0; k < 999; k++) {
-            x.put(10);
-        }
-        x.order(50, 3);
+        RollCutter x = Calls.withMostOffcuts();
+        x.due(0, 3);
         C.due("carry()", x.carry(), 3);
         C.due("store(10)", x.store(10), 1002);
         C.due("store(-1)", x.store(-1), 1002);

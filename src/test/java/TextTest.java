@@ -326,12 +326,12 @@ public final class TextTest {
         Calls.feed(x, "a=2|" + "a=9|".repeat(20) + "b=3|a=");
         C.due("told(7), the tape is full", x.told(7), 90);
         C.due("pick, cut off", x.pick(), -100 - 90);
-        C.due("pick, a word at the end", Calls.pick(x, "a=2|".repeat(21) + "a=02|b"), -100 - 90);
-        C.due("pick, a longer one", Calls.pick(x, "a=2|".repeat(21) + "a|used"), -100 - 85);
-        C.due("pick, a word at the end", Calls.pick(x, "a=2|".repeat(20) + "a=02|&used"), -100 - 85);
-        C.due("pick, a word at the end", Calls.pick(x, "a=2|".repeat(20) + "a=02&(used"), -100 - 90);
-        C.due("pick, no word at the end", Calls.pick(x, "a=2|".repeat(20) + "a=02&(usee"), -100 - 86);
-        C.due("pick, nothing but a letter", Calls.pick(x, "a".repeat(90)), -100);
+        C.due("pick, a word at the end", Calls.pick(five(), "a=2|".repeat(21) + "a=02|b"), -100 - 90);
+        C.due("pick, a longer one", Calls.pick(five(), "a=2|".repeat(21) + "a|used"), -100 - 85);
+        C.due("pick, a word at the end", Calls.pick(five(), "a=2|".repeat(20) + "a=02|&used"), -100 - 85);
+        C.due("pick, a word at the end", Calls.pick(five(), "a=2|".repeat(20) + "a=02&(used"), -100 - 90);
+        C.due("pick, no word at the end", Calls.pick(five(), "a=2|".repeat(20) + "a=02&(usee"), -100 - 86);
+        C.due("pick, nothing but a letter", Calls.pick(five(), "a".repeat(90)), -100);
     }
 
     private static void judge() {

@@ -1,8 +1,12 @@
 /**
  * Runs of calls made up by a fixed rule, each answer compared with the model's. Arguments:
- * how many runs (120 unless told), and from which on (0).
+ * how many runs (2000 unless told), and from which on (0).
  */
 public final class TwinTest {
+    private static final int MOST_CALLS = 512;
+    /** A text is 95 bytes at most, and the call that reads it comes behind. */
+    private static final int MOST_AT_ONCE = 100;
+
     private final Check check;
     private final int run;
     private final RollCutter x = new RollCutter();
@@ -19,7 +23,7 @@ public final class TwinTest {
     }
 
     public static void main(String[] args) {
-        int runs = args.length > 0 ? Integer.parseInt(args[0]) : 120;
+        int runs = args.length > 0 ? Integer.parseInt(args[0]) : 2000;
         int from = args.length > 1 ? Integer.parseInt(args[1]) : 0;
         Check check = new Check();
         for (int run = from; run < from + runs; run++) {
@@ -42,6 +46,7 @@ public final class TwinTest {
         return below(n) == 0;
     }
 
+    /** Each of the object's calls is asked by this, and so counted: it is good for 512. */
     private void due(String call, long got, long want) {
         calls++;
         told.append(call).append(" -> ").append(want).append('\n');
@@ -53,9 +58,14 @@ public final class TwinTest {
 
     private void go() {
         setUp();
-        while (calls < 420) {
+        while (calls < MOST_CALLS - MOST_AT_ONCE) {
             change();
-            ask();
+            if (calls < MOST_CALLS - MOST_AT_ONCE) {
+                ask();
+            }
+        }
+        if (calls > MOST_CALLS) {
+            check.due("calls of one object", calls, MOST_CALLS);
         }
     }
 
@@ -78,12 +88,12 @@ public final class TwinTest {
 
     private void change() {
         switch (below(12)) {
-            case 0: order(3 + below(60), below(42)); break;
-            case 1: case 2: case 3: dueOf(below(7) - (oneIn(9) ? 1 : 0), below(42)); break;
-            case 4: machine(below(5), below(62)); break;
-            case 5: machine(1, below(4)); break;
-            case 6: machine(2, below(14)); break;
-            case 7: machine(3, 1 + below(15)); break;
+            case 0: order(orFar(3 + below(60)), orFar(below(42))); break;
+            case 1: case 2: case 3: dueOf(orFar(below(7) - (oneIn(9) ? 1 : 0)), orFar(below(42))); break;
+            case 4: machine(orFar(below(5)), orFar(below(62))); break;
+            case 5: machine(1, orFar(below(4))); break;
+            case 6: machine(2, orFar(below(14))); break;
+            case 7: machine(3, orFar(1 + below(15))); break;
             case 8: store(); break;
             case 9: image(); break;
             case 10: bookText(); break;
@@ -111,14 +121,15 @@ public final class TwinTest {
             due("carry()", x.carry(), t.carry());
         }
         for (int k = below(8); k > 0; k--) {
-            int size = below(62);
+            int size = orFar(below(62));
             due("put(" + size + ")", x.put(size), t.put(size));
         }
         if (oneIn(2)) {
             due("serve()", x.serve(), t.serve());
         }
-        for (int size = -2; size < 62; size++) {
-            check.due("store(" + size + ")", x.store(size), t.store(size));
+        for (int k = 0; k < 12; k++) {
+            int size = orFar(below(65) - 2);
+            due("store(" + size + ")", x.store(size), t.store(size));
         }
     }
 
@@ -143,14 +154,34 @@ public final class TwinTest {
         }
     }
 
+    /** Mostly the number itself, now and then one from far away. */
+    private int orFar(int n) {
+        return oneIn(40) ? Ask.FAR[below(Ask.FAR.length)] : n;
+    }
+
+    private int part() {
+        return orFar(oneIn(12) ? below(5) - 2 : below(2));
+    }
+
+    /** Most often pieces of an order, else one of the first numbers, or one that is none. */
+    private int what() {
+        return orFar(oneIn(2) ? 10 + below(7) : below(6) - 1);
+    }
+
+    private int number(int there) {
+        return orFar(below(there + 2) - (oneIn(8) ? 1 : 0));
+    }
+
     private void askOrders() {
-        int j = below(8) - 1;
-        int what = below(4) - 1;
-        due("of(" + j + ", " + what + ")", x.of(j, what), t.of(j, what));
-        int kind = below(4) - 1;
-        due("patterns(" + kind + ")", x.patterns(kind), t.patterns(kind));
+        for (int n = 0; n < 3; n++) {
+            int j = below(8) - 1;
+            int what = below(4) - 1;
+            due("of(" + j + ", " + what + ")", x.of(j, what), t.of(j, what));
+            int kind = below(4) - 1;
+            due("patterns(" + kind + ")", x.patterns(kind), t.patterns(kind));
+        }
         for (int k = -1; k < 11; k++) {
-            check.due("told(" + k + ")", x.told(k), t.told(k));
+            due("told(" + k + ")", x.told(k), t.told(k));
         }
     }
 
@@ -159,30 +190,29 @@ public final class TwinTest {
         due("bound(0)", x.bound(0), t.bound(0));
         due("bound(1)", x.bound(1), t.bound(1));
         due("least()", x.least(), t.least());
-        for (int i = -1; i < 7; i++) {
-            for (int what = -1; what < 17; what++) {
-                check.due("row(" + i + ", " + what + ")", x.row(i, what), t.row(i, what));
-            }
-            for (int part = -1; part < 3; part++) {
-                String behind = ", " + part + ")";
-                check.due("amount(" + i + behind, x.amount(i, part), t.amount(i, part));
-                check.due("price(" + i + behind, x.price(i, part), t.price(i, part));
-                for (int j = -1; j < 7; j++) {
-                    check.due("share(" + i + ", " + j + behind, x.share(i, j, part), t.share(i, j, part));
-                }
-            }
+        for (int n = 0; n < 16; n++) {
+            int i = number(t.rows());
+            int j = number(6);
+            int part = part();
+            int what = what();
+            due("row(" + i + ", " + what + ")", x.row(i, what), t.row(i, what));
+            due("amount(" + i + ", " + part + ")", x.amount(i, part), t.amount(i, part));
+            due("share(" + i + ", " + j + ", " + part + ")", x.share(i, j, part), t.share(i, j, part));
+            due("price(" + j + ", " + part + ")", x.price(j, part), t.price(j, part));
         }
+        int part = below(4) - 1;
+        due("bound(" + part + ")", x.bound(part), t.bound(part));
     }
 
     private void askRounds() {
         due("rounds()", x.rounds(), t.rounds());
-        for (int k = -1; k <= t.rounds(); k++) {
-            for (int what = -1; what < 17; what++) {
-                check.due("came(" + k + ", " + what + ")", x.came(k, what), t.came(k, what));
-            }
+        for (int n = 0; n < 40; n++) {
+            int k = number(t.rounds());
+            int what = what();
+            due("came(" + k + ", " + what + ")", x.came(k, what), t.came(k, what));
         }
         for (int j = -1; j < 7; j++) {
-            check.due("leeway(" + j + ")", x.leeway(j), t.leeway(j));
+            due("leeway(" + j + ")", x.leeway(j), t.leeway(j));
         }
         due("told(9)", x.told(9), t.told(9));
     }
@@ -191,23 +221,25 @@ public final class TwinTest {
         for (int way = -1; way < 4; way++) {
             due("rolls(" + way + ")", x.rolls(way), t.rolls(way));
         }
-        for (int i = -2; i <= t.cut(-1, 0); i++) {
-            for (int what = -1; what < 17; what++) {
-                check.due("cut(" + i + ", " + what + ")", x.cut(i, what), t.cut(i, what));
-            }
+        for (int n = 0; n < 40; n++) {
+            int i = number(t.cut(-1, 0));
+            int what = what();
+            due("cut(" + i + ", " + what + ")", x.cut(i, what), t.cut(i, what));
         }
-        for (int r = -2; r <= t.rolls(2); r++) {
-            check.due("waste(" + r + ")", x.waste(r), t.waste(r));
+        for (int n = 0; n < 20; n++) {
+            int roll = number(t.rolls(2));
+            due("waste(" + roll + ")", x.waste(roll), t.waste(roll));
         }
-        int n = below(62) - 1;
-        due("wasting(" + n + ")", x.wasting(n), t.wasting(n));
+        due("waste(-1)", x.waste(-1), t.waste(-1));
+        int least = orFar(below(62) - 1);
+        due("wasting(" + least + ")", x.wasting(least), t.wasting(least));
     }
 
     private void askStacks() {
         due("peak()", x.peak(), t.peak());
         for (int i = -1; i < 7; i++) {
-            check.due("sequence(" + i + ")", x.sequence(i), t.sequence(i));
-            check.due("open(" + i + ")", x.open(i), t.open(i));
+            due("sequence(" + i + ")", x.sequence(i), t.sequence(i));
+            due("open(" + i + ")", x.open(i), t.open(i));
         }
     }
 
@@ -215,8 +247,9 @@ public final class TwinTest {
         if (oneIn(2)) {
             due("spell()", x.spell(), t.spell());
         }
-        for (int i = -1; i <= t.told(8); i++) {
-            check.due("paper(" + i + ")", x.paper(i), t.paper(i));
+        for (int n = 0; n < 40; n++) {
+            int i = number(t.told(8));
+            due("paper(" + i + ")", x.paper(i), t.paper(i));
         }
     }
 
@@ -233,9 +266,8 @@ public final class TwinTest {
                 default: b.replace(at, Math.min(b.length(), at + 1), String.valueOf(c));
             }
         }
-        told.append("feed ").append(b).append('\n');
-        for (int i = 0; i < b.length(); i++) {
-            check.due("feed(" + (int) b.charAt(i) + ")", x.feed(b.charAt(i)), t.feed(b.charAt(i)));
+        for (int i = 0; i < Math.min(95, b.length()); i++) {
+            due("feed('" + b.charAt(i) + "')", x.feed(b.charAt(i)), t.feed(b.charAt(i)));
         }
     }
 
